@@ -561,7 +561,8 @@ public final class CyclePatterns {
                     walk(node.innerAt(0), width * node.k, origin, from, to, depth + 1);
                     break;
                 case 'L':
-                    walk(node.innerAt(0), width, origin + width / node.n * node.k, from, to, depth + 1);
+                    long later = origin + width / node.n * node.k;
+                    walk(node.innerAt(0), width, later, from, to, depth + 1);
                     break;
                 case '{':
                     for (int i = 0; i < node.n && !rows.tooMany; i++) {
@@ -574,14 +575,17 @@ public final class CyclePatterns {
         }
 
         private void walkCycles(Node node, long width, long origin, long from, long to, int depth) {
-            long first = width > 0 ? Math.floorDiv(from - origin, width) : Math.floorDiv(origin - to, -width);
-            long last = width > 0 ? Math.floorDiv(to - 1 - origin, width) : Math.floorDiv(origin - 1 - from, -width);
+            boolean forwards = width > 0;
+            long length = Math.abs(width);
+            long first = Math.floorDiv(forwards ? from - origin : origin - to, length);
+            long last = Math.floorDiv(forwards ? to - 1 - origin : origin - 1 - from, length);
             for (long cycle = first; cycle <= last && !rows.tooMany; cycle++) {
                 walkCycle(node, cycle, width, origin, from, to, depth);
             }
         }
 
-        private void walkCycle(Node node, long cycle, long width, long origin, long from, long to, int depth) {
+        private void walkCycle(Node node, long cycle, long width, long origin, long from, long to,
+                int depth) {
             switch (node.kind) {
                 case '[': case 'E':
                     walkSteps(node, cycle, width, origin, from, to, depth);
@@ -589,31 +593,34 @@ public final class CyclePatterns {
                 case '<':
                     long turn = Math.floorDiv(cycle, (long) node.n);
                     Node inTurn = node.innerAt((int) Math.floorMod(cycle, (long) node.n));
-                    walkOnly(turn, inTurn, width, origin + width * (cycle - turn), from, to, depth);
+                    walkInto(turn, inTurn, width, origin + width * (cycle - turn), from, to, depth);
                     break;
                 case 'R':
-                    walkOnly(cycle, node.innerAt(0), -width, origin + width * (2 * cycle + 1), from, to, depth);
+                    long mirrored = origin + width * (2 * cycle + 1);
+                    walkInto(cycle, node.innerAt(0), -width, mirrored, from, to, depth);
                     break;
                 case 'V':
                     Node chosen = node.innerAt(Math.floorMod(cycle, (long) node.k) == 0 ? 0 : 1);
-                    walkOnly(cycle, chosen, width, origin, from, to, depth);
+                    walkInto(cycle, chosen, width, origin, from, to, depth);
                     break;
                 default:
                     hear(node.kind, begin(cycle, width, origin), end(cycle, width, origin), from, to);
             }
         }
 
-        private void walkSteps(Node node, long cycle, long width, long origin, long from, long to, int depth) {
+        private void walkSteps(Node node, long cycle, long width, long origin, long from, long to,
+                int depth) {
             long stepWidth = width / node.n;
             long cycleBegin = origin + width * cycle;
             for (int i = 0; i < node.n && !rows.tooMany; i++) {
                 long stepOrigin = cycleBegin + stepWidth * (i - cycle);
-                walkOnly(cycle, node.inStep(i), stepWidth, stepOrigin, from, to, depth);
+                walkInto(cycle, node.inStep(i), stepWidth, stepOrigin, from, to, depth);
             }
         }
 
         /** Goes into one cycle of an inner pattern, with the span cut to it. */
-        private void walkOnly(long cycle, Node inner, long width, long origin, long from, long to, int depth) {
+        private void walkInto(long cycle, Node inner, long width, long origin, long from, long to,
+                int depth) {
             long cutFrom = Math.max(from, begin(cycle, width, origin));
             long cutTo = Math.min(to, end(cycle, width, origin));
             walk(inner, width, origin, cutFrom, cutTo, depth + 1);
