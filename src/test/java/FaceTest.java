@@ -12,18 +12,26 @@ public final class FaceTest {
             + "int query(int,int,int,int), int tick(), int type(long,int), int unit()]";
 
     public static void main(String[] args) {
-        Class<?> face = CyclePatterns.class;
-        Check.due("public and final", Modifier.isPublic(face.getModifiers()) && Modifier.isFinal(face.getModifiers()), true);
+        Check.test("the constants", FaceTest::constants);
+        Check.test("just the document's members", FaceTest::members);
+        Check.end();
+    }
+
+    private static void constants() {
         Check.due("BAD", CyclePatterns.BAD, -1);
         Check.due("MANY", CyclePatterns.MANY, -2);
         Check.due("FULL", CyclePatterns.FULL, -3);
+    }
+
+    private static void members() {
+        Class<?> face = CyclePatterns.class;
+        Check.due("public and final", Modifier.isPublic(face.getModifiers()) && Modifier.isFinal(face.getModifiers()), true);
         Check.due("fields", fields(face), "[BAD, FULL, MANY]");
         Check.due("methods", methods(face), METHODS);
         Constructor<?>[] constructors = face.getDeclaredConstructors();
         Check.due("constructors", constructors.length, 1);
         Check.due("its parameters", constructors[0].getParameterCount(), 0);
         Check.due("it is public", Modifier.isPublic(constructors[0].getModifiers()), true);
-        Check.end();
     }
 
     private static String fields(Class<?> face) {

@@ -6,10 +6,16 @@ import java.util.Random;
 
 /** Random runs, the same ones each time, compared with the slow model in fractions. */
 public final class ReferenceTest {
-    private static final int RUNS = 1500;
-    private static final int CALLS = 60;
+    private static final int RUNS = 4000;
+    /** The document lets an object be used for so many calls. */
+    private static final int MOST_CALLS = 512;
+    /** How many of the parts or onsets are looked at, at most, to spare calls. */
+    private static final int WINDOW = 30;
+    /** No step of a run has more calls than this. */
+    private static final int CALLS_OF_A_STEP = 5 * WINDOW + 4;
 
     private final Random random;
+    private int calls;
     private final CyclePatterns x = new CyclePatterns();
     private final String[] texts = new String[8];
     private int mask;
@@ -23,17 +29,21 @@ public final class ReferenceTest {
     }
 
     public static void main(String[] args) {
+        Check.test("all answers of random runs are the model's", ReferenceTest::randomRuns);
+        Check.end();
+    }
+
+    private static void randomRuns() {
         for (int run = 0; run < RUNS; run++) {
             new ReferenceTest(run).run();
         }
-        Check.end();
     }
 
     private void run() {
         for (int slot = 0; slot < 4; slot++) {
             define(slot, pattern(40, 60));
         }
-        for (int call = 0; call < CALLS; call++) {
+        while (calls + CALLS_OF_A_STEP <= MOST_CALLS) {
             switch (random.nextInt(8)) {
                 case 0: define(random.nextInt(4), random.nextInt(3) == 0 ? damaged(pattern(39, 60)) : pattern(40, 60)); break;
                 case 1: case 2: case 3: query(random.nextInt(4)); break;
@@ -97,6 +107,7 @@ public final class ReferenceTest {
         double grain = wrong < 0 ? Reference.of(text).grain() : 0;
         int want = wrong >= 0 ? -100 - wrong : grain > 5040 ? CyclePatterns.FULL : (int) grain;
         Check.due("define of " + text, Check.define(x, slot, text), want);
+        calls += (text.length() + 7) / 8 + 1;
         mask = 0;
         tick = 0;
         if (want > 0) {
@@ -117,16 +128,24 @@ public final class ReferenceTest {
         if (parts.size() > 200) {
             parts.clear();
         }
+        int first = random.nextInt(Math.max(1, parts.size() - WINDOW + 2));
         StringBuilder want = new StringBuilder();
         int onsets = 0;
-        for (Reference.Part part : parts) {
-            want.append(want.length() == 0 ? "" : ", ").append(part.letter())
-                    .append(' ').append(counted(part.begin(), unit)).append("..").append(counted(part.end(), unit))
-                    .append(" of ").append(counted(part.wholeBegin(), unit)).append("..").append(counted(part.wholeEnd(), unit));
+        for (int i = 0; i < parts.size(); i++) {
+            Reference.Part part = parts.get(i);
             onsets += part.isOnset() ? 1 : 0;
+            if (i >= first && i < first + WINDOW) {
+                want.append(want.length() == 0 ? "" : ", ").append(told(part, unit));
+            }
         }
-        Check.due("what is found of " + name, Check.found(x), want.toString());
+        Check.due("what is found of " + name, Check.found(x, first, first + WINDOW), want.toString());
         Check.due("onsets of " + name, x.onsets(), onsets);
+        calls += 4 + 5 * Math.min(WINDOW, parts.size() - first);
+    }
+
+    private static String told(Reference.Part part, int unit) {
+        return part.letter() + " " + counted(part.begin(), unit) + ".." + counted(part.end(), unit)
+                + " of " + counted(part.wholeBegin(), unit) + ".." + counted(part.wholeEnd(), unit);
     }
 
     /** The document says that times unit() all times are whole numbers. */
@@ -150,6 +169,7 @@ public final class ReferenceTest {
             }
         }
         Check.due("differ of " + texts[one] + " and " + texts[other], x.differ(one, other), want);
+        calls++;
     }
 
     private void play() {
@@ -158,6 +178,7 @@ public final class ReferenceTest {
         d = 1 + random.nextInt(20);
         tick = 0;
         Check.due("play", x.play(mask, n, d), true);
+        calls++;
     }
 
     private record Onset(long tick, int slot, Fraction time, Fraction end, char letter, long lasts) {
@@ -168,7 +189,8 @@ public final class ReferenceTest {
     private void advance() {
         int k = 1 + random.nextInt(random.nextBoolean() ? 500 : 20);
         if (mask == 0) {
-            Check.due("advance", x.advance(k), CyclePatterns.BAD);
+            Check.bad("advance", x.advance(k));
+            calls++;
             return;
         }
         List<Onset> onsets = new ArrayList<>();
@@ -182,14 +204,20 @@ public final class ReferenceTest {
         String name = "advance of " + String.join(" ", texts) + " mask " + mask + " speed " + n + "/" + d
                 + " from " + tick + " on by " + k;
         Check.due(name, x.advance(k), many ? CyclePatterns.MANY : onsets.size());
+        if (many) {
+            onsets.clear();
+        }
+        int first = random.nextInt(Math.max(1, onsets.size() - WINDOW + 2));
         StringBuilder want = new StringBuilder();
-        for (Onset onset : many ? new ArrayList<Onset>() : onsets) {
+        for (int i = first; i < Math.min(first + WINDOW, onsets.size()); i++) {
+            Onset onset = onsets.get(i);
             want.append(want.length() == 0 ? "" : ", ").append(onset.tick()).append(' ').append(onset.slot())
                     .append(' ').append(onset.letter()).append(' ').append(onset.lasts());
         }
-        Check.due(name, Check.dueOnsets(x), want.toString());
+        Check.due(name, Check.dueOnsets(x, first, first + WINDOW), want.toString());
         tick += many ? 0 : k;
         Check.due("tick", x.tick(), tick);
+        calls += 3 + 4 * Math.min(WINDOW, onsets.size() - first);
     }
 
     /** Looks at whole cycles round the ticks, and takes the onsets whose tick is one of these. */
