@@ -15,6 +15,7 @@ public final class Promise08DifferTest {
         Check.test("... before that: a difference in an earlier cycle comes first", Promise08DifferTest::differenceFirst);
         Check.test("MANY also where they differ in that very cycle", Promise08DifferTest::sameCycle);
         Check.test("-9 when there are no such slots", Promise08DifferTest::noSuchSlots);
+        Check.test("the deepest patterns", Promise08DifferTest::deepest);
         Check.test("differ changes nothing", Promise08DifferTest::changesNothing);
         Check.end();
     }
@@ -43,11 +44,14 @@ public final class Promise08DifferTest {
     }
 
     private static void anyNumber() {
+        compares("V2a[~S2a]", "a", 1);
+        compares("[S2a~]", "a", 0);
+        compares("RS2a", "a", 0);
+        compares("S2a", "a", 0);
         compares("a", "b", 0);
         compares("a", "{aa}", 0);
         compares("a", "[aa]", 0);
         compares("[a~]", "[~a]", 0);
-        compares("S2a", "a", 0);
         compares("S2a", "L11S2a", 0);
         compares("RS2a", "[S2a]", 0);
         compares("L12a", "a", 0);
@@ -61,6 +65,10 @@ public final class Promise08DifferTest {
         compares("F7F8F9S5L22a", "F7F8F9S5L11a", -1);
         compares("F7F8F9S5L12a", "F7F8F9S5L22a", 0);
         compares("F6a", "F2F3a", -1);
+        compares("F2S2a", "F3S3a", -1);
+        compares("F4S4[ab]", "F3S3[ab]", -1);
+        compares("F9S9F7S7a", "F8S8F8S8a", -1);
+        compares("F9S9F7S7a", "F8S8F8S8b", 0);
         compares("[S2a]", "S2a", -1);
     }
 
@@ -138,6 +146,11 @@ public final class Promise08DifferTest {
         Check.due("the last slot", x.differ(0, 7), 0);
         Check.due("the last slot first", x.differ(7, 0), 0);
         Check.due("the last slot and itself", x.differ(7, 7), -1);
+    }
+
+    private static void deepest() {
+        compares("R".repeat(39) + "a", "R".repeat(38) + "a", -1);
+        compares("R".repeat(39) + "a", "~", 0);
     }
 
     private static void changesNothing() {

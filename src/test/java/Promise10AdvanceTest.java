@@ -20,6 +20,7 @@ public final class Promise10AdvanceTest {
         Check.test("MANY: then no tick goes by", Promise10AdvanceTest::manyNoTick);
         Check.test("MANY: and nothing is due", Promise10AdvanceTest::manyNothingDue);
         Check.test("only onsets count for MANY", Promise10AdvanceTest::onlyOnsetsCount);
+        Check.test("the deepest patterns play too", Promise10AdvanceTest::deepest);
         Check.test("exact after all the calls that an object is used for", Promise10AdvanceTest::farAhead);
         Check.end();
     }
@@ -249,6 +250,12 @@ public final class Promise10AdvanceTest {
         Check.due("few of many parts", x.advance(500), 15);
         x.play(2, 20, 1);
         Check.due("none of many parts", x.advance(500), 0);
+    }
+
+    private static void deepest() {
+        CyclePatterns x = Check.with("R".repeat(39) + "a", "[".repeat(19) + "b" + "]".repeat(19));
+        x.play(3, 20, 1);
+        advances(x, 1, "0 0 a 50, 0 1 b 50");
     }
 
     private static void farAhead() {

@@ -15,6 +15,7 @@ public final class TermsBufferTest {
         Check.test("the digits of E: n 1 .. 9, k 0 .. n, r 0 .. 9", TermsBufferTest::digitsOfE);
         Check.test("a k of E more than n is wrong where n stands", TermsBufferTest::moreThanN);
         Check.test("wrong at its end when more is wanted", TermsBufferTest::moreIsWanted);
+        Check.test("what the buffer had before is behind its end", TermsBufferTest::nothingBehindTheEnd);
         Check.test("wrong at the first one behind a whole pattern", TermsBufferTest::behindAPattern);
         Check.test("the buffer has at most 40 characters, and all of them count", TermsBufferTest::forty);
         Check.test("the grain is the product of the steps of all [ ]", TermsBufferTest::grainOfSteps);
@@ -158,6 +159,19 @@ public final class TermsBufferTest {
         }
     }
 
+    private static void nothingBehindTheEnd() {
+        String[] texts = {"[ab]", "<ab>", "{ab}", "F2a", "S2a", "L12a", "Ra", "V2ab", "E120a"};
+        for (String text : texts) {
+            for (int length = 0; length < text.length(); length++) {
+                CyclePatterns x = new CyclePatterns();
+                Check.due("define of " + text, Check.define(x, 0, text) > 0, true);
+                Check.due("then of its first " + length, Check.define(x, 0, text.substring(0, length)), -100 - length);
+                Check.type(x, text);
+                Check.due("then of " + text, x.define(0) > 0, true);
+            }
+        }
+    }
+
     private static void behindAPattern() {
         Check.wrongAt("aa", 1);
         Check.wrongAt("~~", 1);
@@ -181,6 +195,9 @@ public final class TermsBufferTest {
         Check.wrongAt("R".repeat(38) + "ab", 39);
         Check.wrongAt("[".repeat(40), 40);
         Check.wrongAt("F1".repeat(20), 40);
+        for (String end : new String[] {"F", "S", "L", "L1", "V", "V1", "V1a", "E", "E1", "E11", "[a", "<a", "{a"}) {
+            Check.wrongAt("R".repeat(40 - end.length()) + end, 40);
+        }
         Check.wrongAt("[".repeat(20) + "a" + "]".repeat(19), 40);
         for (String group : GROUPS) {
             String text = group.substring(0, 1).repeat(19) + "a" + group.substring(1).repeat(19);

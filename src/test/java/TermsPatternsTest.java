@@ -3,6 +3,7 @@ public final class TermsPatternsTest {
     public static void main(String[] args) {
         Check.test("a cycle is any whole number, also below 0", TermsPatternsTest::cyclesBelowZero);
         Check.test("the parts are of each event whose whole meets the span, what is in both", TermsPatternsTest::parts);
+        Check.test("no part is empty, also where a pattern is cut", TermsPatternsTest::noEmptyParts);
         Check.test("what stands in different cycles are different events", TermsPatternsTest::differentEvents);
         Check.test("~ has no events", TermsPatternsTest::rest);
         Check.test("a letter a .. z: an event in each cycle", TermsPatternsTest::letters);
@@ -59,6 +60,23 @@ public final class TermsPatternsTest {
         y.query(0, 49, 51, 50);
         Check.due("the last bit of one and the first of another", Check.found(y),
                 "b 98..100 of 50..100, a 100..102 of 100..150");
+    }
+
+    private static void noEmptyParts() {
+        for (String text : new String[] {"[aL12b]", "[aRL12b]", "E120{aL12~}", "[aS3b]"}) {
+            CyclePatterns x = Check.with(text);
+            Check.due(text + " to where its second step begins", x.query(0, 0, 1, 2), 1);
+            Check.due("its letter", x.part(0, 4), 'a');
+        }
+        for (String text : new String[] {"[L12ba]", "[RL12ba]", "[S3ba]"}) {
+            CyclePatterns x = Check.with(text);
+            Check.due(text + " from where its second step begins", x.query(0, 1, 2, 2), 1);
+            Check.due("its letter", x.part(0, 4), 'a');
+        }
+        for (String text : new String[] {"<aL12b>", "V2aL12b"}) {
+            Check.findsWholes(text, 0, 1, "a 0..2");
+            Check.findsWholes(text, 2, 3, "a 4..6");
+        }
     }
 
     private static void differentEvents() {
