@@ -181,7 +181,7 @@ public final class CyclePatterns {
             case 0: return (int) dueOnsets.rows.value(i, Onsets.TICK);
             case 1: return (int) dueOnsets.rows.value(i, Onsets.SLOT);
             case 2: return (int) dueOnsets.rows.value(i, Onsets.LETTER);
-            case 3: return (int) ticksThatLasts(i);
+            case 3: return (int) ticksItLasts(i);
             default: return BAD;
         }
     }
@@ -223,7 +223,7 @@ public final class CyclePatterns {
         return (long) speedCycles * grains[slot];
     }
 
-    private long ticksThatLasts(int i) {
+    private long ticksItLasts(int i) {
         int slot = (int) dueOnsets.rows.value(i, Onsets.SLOT);
         if (!isSlot(slot) || tickLength(slot) < 1) {
             return BAD;
