@@ -627,11 +627,11 @@ public final class CyclePatterns {
         }
 
         private static long begin(long cycle, long width, long origin) {
-            return origin + Math.min(width * cycle, width * (cycle + 1));
+            return origin + width * (width > 0 ? cycle : cycle + 1);
         }
 
         private static long end(long cycle, long width, long origin) {
-            return origin + Math.max(width * cycle, width * (cycle + 1));
+            return origin + width * (width > 0 ? cycle + 1 : cycle);
         }
     }
 
